@@ -734,12 +734,12 @@ public final class SaucerFair {
 
     /** The next choice, by how many it has, then as a number: the fewest come first, of these the least. */
     private static int nextChoice(int bits, int members) {
-        if (bits == 0) {
+        int low = bits & -bits;
+        if (low == 0) {
             return 1;
         }
-        int low = Integer.numberOfTrailingZeros(bits);
-        int up = bits + (1 << low);
-        int next = up | ((up ^ bits) >>> (low + 2));
+        int up = bits + low;
+        int next = up | ((up ^ bits) >>> 2) / low;
         return next < 1 << members ? next : (1 << (Integer.bitCount(bits) + 1)) - 1;
     }
 
@@ -1039,7 +1039,8 @@ public final class SaucerFair {
         static final int END = 0;
         static final int WORD = 1;
         static final int NUMBER = 2;
-        static final int NO_TOKEN = 3;
+        static final int BLANK = 3;
+        static final int NO_TOKEN = 4;
         static final int DIGITS = 4;
         static final int MOST_NUMBER = 9999;
         static final int NESTED = 6;
@@ -1054,7 +1055,6 @@ public final class SaucerFair {
         private int next;
         private int start;
         private int kind;
-        private int digits;
         private int number;
 
         void put(int four) {
@@ -1086,50 +1086,39 @@ public final class SaucerFair {
             return false;
         }
 
-        /** The next TOKEN: its kind is the sign itself, or one of the kinds above, which no sign's number is. */
+        /** The next TOKEN: words and NUMBERS go on as long as their kind does, a sign is one alone. */
         private void advance() {
-            while (next < end && (tape[next] == ' ' || tape[next] == '\n')) {
+            while (next < end && kindOf(tape[next]) == BLANK) {
                 next++;
             }
             start = next;
-            if (next >= end) {
-                kind = END;
-            } else if (isLetter(tape[next])) {
-                kind = WORD;
-                while (next < end && isLetter(tape[next])) {
+            kind = next < end ? kindOf(tape[next]) : END;
+            number = 0;
+            if (kind == WORD || kind == NUMBER) {
+                while (next < end && kindOf(tape[next]) == kind) {
+                    if (kind == NUMBER && next - start < DIGITS) {
+                        number = number * 10 + tape[next] - '0';
+                    }
                     next++;
                 }
-            } else if (isDigit(tape[next])) {
-                readDigits();
-            } else {
-                kind = isSign(tape[next]) ? tape[next] : NO_TOKEN;
+            } else if (kind != END) {
                 next++;
             }
         }
 
-        private void readDigits() {
-            kind = NUMBER;
-            digits = 0;
-            number = 0;
-            while (next < end && isDigit(tape[next])) {
-                digits++;
-                if (digits <= DIGITS) {
-                    number = number * 10 + tape[next] - '0';
-                }
-                next++;
+        /** The kind of TOKEN to which a byte belongs; a sign's is the sign itself. */
+        private static int kindOf(int sign) {
+            if (sign == ' ' || sign == '\n') {
+                return BLANK;
             }
-        }
-
-        private static boolean isLetter(int sign) {
-            return sign >= 'a' && sign <= 'z';
-        }
-
-        private static boolean isDigit(int sign) {
-            return sign >= '0' && sign <= '9';
-        }
-
-        private static boolean isSign(int sign) {
-            return sign >= '(' && sign <= '+' || sign == '-' || sign == '/' || sign >= ';' && sign <= '=';
+            if (sign >= 'a' && sign <= 'z') {
+                return WORD;
+            }
+            if (sign >= '0' && sign <= '9') {
+                return NUMBER;
+            }
+            boolean known = sign >= '(' && sign <= '+' || sign == '-' || sign == '/' || sign >= ';' && sign <= '=';
+            return known ? sign : NO_TOKEN;
         }
 
         private boolean isWord(String word) {
@@ -1246,7 +1235,10 @@ public final class SaucerFair {
             if (kind != NUMBER) {
                 return refuse(1);
             }
-            return digits <= DIGITS && number >= least && number <= most || refuse(2);
+            if (next - start > DIGITS || number < least || number > most) {
+                return refuse(2);
+            }
+            return true;
         }
 
         /** Whether the TOKEN is a Y at which, with this X, none of these stands. */

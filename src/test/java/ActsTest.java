@@ -10,7 +10,9 @@ final class ActsTest {
         carrying();
         undoing();
         forty();
+        fortyOfAllKinds();
         images();
+        imageOfActs();
         DUE.end();
     }
 
@@ -57,6 +59,10 @@ final class ActsTest {
         DUE.is("who is back", x.saying(1, 1), 1);
         DUE.is("its hour too", x.saying(1, 0), 4);
         DUE.is("shown with it", x.shows(0, 4), 2);
+        x.back();
+        DUE.is("tell another one in its place", x.tell(60, 1, 9), 1);
+        DUE.is("the hour that is taken back shows it no more", x.shows(0, 4), 6);
+        DUE.is("the other hour does", x.shows(0, 60), 2);
     }
 
     private static void rusting() {
@@ -138,6 +144,57 @@ final class ActsTest {
         }
         DUE.is("the first is not kept", x.undo(), -1);
         DUE.is("so it stands", x.needle(1, 3), 7);
+    }
+
+    private static void fortyOfAllKinds() {
+        SaucerFair x = Due.of(FAIR);
+        for (int i = 0; i < 15; i++) {
+            x.carry(1, i, 2 * i);
+            x.rust(0, i % 10);
+            DUE.is("tell", x.tell(i, i % 2, i % 10), i + 1);
+        }
+        DUE.is("kept", x.count(4), 40);
+        for (int i = 14; i >= 2; i--) {
+            x.undo();
+            DUE.is("told is undone", x.count(2), i + 1);
+            x.undo();
+            DUE.is("rust is undone", x.needle(0, 3), (i - 1) % 10);
+            x.undo();
+            DUE.is("carried is undone", x.needle(1, 0) * 100 + x.needle(1, 1), 102 * (i - 1));
+        }
+        DUE.is("the last that is kept", x.undo(), 0);
+        DUE.is("one told is left", x.count(2), 2);
+        DUE.is("none is left", x.undo(), -1);
+    }
+
+    private static void imageOfActs() {
+        SaucerFair x = Due.of(FAIR + "says 7 1 8;");
+        x.carry(1, 3, 4);
+        x.back();
+        x.rust(0, 8);
+        x.tell(9, 0, 7);
+        x.image();
+        for (int i = 0; i < 4; i++) {
+            x.undo();
+        }
+        for (int i = 0; i < 5; i++) {
+            x.back();
+            x.tell(i, 0, 1);
+        }
+        x.restore();
+        DUE.is("the hour", x.saying(1, 0), 9);
+        DUE.is("who", x.saying(1, 1), 0);
+        DUE.is("degree", x.saying(1, 2), 7);
+        DUE.is("undo tell", x.undo(), 3);
+        DUE.is("sayings", x.count(2), 1);
+        DUE.is("undo rust", x.undo(), 2);
+        DUE.is("rust", x.needle(0, 3), 2);
+        DUE.is("undo back", x.undo(), 1);
+        DUE.is("its hour", x.saying(1, 0), 7);
+        DUE.is("its one", x.saying(1, 1), 1);
+        DUE.is("its degree", x.saying(1, 2), 8);
+        DUE.is("undo carry", x.undo(), 0);
+        DUE.is("place", x.needle(1, 0) * 100 + x.needle(1, 1), 709);
     }
 
     private static void images() {

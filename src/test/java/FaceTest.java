@@ -50,6 +50,15 @@ final class FaceTest {
         }
     }
 
+    private static boolean isPublicName(String name) {
+        for (String known : METHODS) {
+            if (known.substring(0, known.indexOf(' ')).equals(name)) {
+                return true;
+            }
+        }
+        return false;
+    }
+
     private static void constructors(Due due) {
         Constructor<?>[] all = SaucerFair.class.getDeclaredConstructors();
         due.is("constructors", all.length, 1);
@@ -79,6 +88,10 @@ final class FaceTest {
                 }
             }
             due.isTrue(one + " has at most twenty fields", fields <= 20);
+            for (Method method : one.getDeclaredMethods()) {
+                due.isTrue(method + " takes at most seven", method.getParameterCount() <= 7);
+                due.isFalse(method + " bears a public name", isPublicName(method.getName()));
+            }
         }
     }
 }

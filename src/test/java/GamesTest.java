@@ -24,11 +24,22 @@ final class GamesTest {
         DUE.is("nothing is lost", x.game(0, 1, 5, 0, 1), 11);
         // 0 and 2 together: 7, at nobody: both lie, too
         DUE.is("most is lost", x.game(0, 2, 5, 99, 0), 2);
+        x.rust(0, 8);
+        DUE.is("lies of 9 are heard over 8", x.game(0, 1, 5, 6, 0), 2);
+        x.rust(0, 9);
+        DUE.is("not over 9", x.game(0, 1, 5, 6, 0), 1);
         SaucerFair free = Due.of("one 1 1 1;one 2 2 2;court said*(hour=3)*(skill=2);");
         DUE.is("the second is accused if he lies", free.game(0, 1, 3, 6, 0), 1);
         DUE.is("the first one lies alone", free.game(0, 1, 3, 6, 1), 10);
         DUE.is("the other way round", free.game(1, 0, 3, 6, 1), 1);
         DUE.is("in another hour", free.game(0, 1, 4, 6, 1), 11);
+        SaucerFair none = Due.of("one 5 1 1;one 2 2 2;needle 5 1 9 9;needle 2 2 9 9;turns far=0;"
+            + "court flat*(said=1)*(skill=2)*2+(said=0)*(skill=1);");
+        DUE.is("0 is accused if silent, unless 1 lies", none.game(0, 1, 0, 99, 1), 10);
+        // accused are 1, 1, 0, 1: 1 would rather lie, 0 lie with him, 1 be silent, 0 be silent, and so on
+        SaucerFair round = Due.of("one 5 5 3;one 10 5 1;one 5 20 7;needle 5 5 9 2;needle 20 5 30 0;says 3 1 4;says 7 2 9;");
+        DUE.is("no couple rests", round.game(0, 1, 20, 9, 0), 0);
+        DUE.is("there is no first", round.game(0, 1, 20, 9, 1), -1);
         SaucerFair chase = Due.of("one 1 1 1;one 2 2 2;court (said=1)*(skill=1);says 0 1 1;");
         DUE.is("who is silent may be accused", chase.game(0, 1, 3, 9, 1), 1);
     }

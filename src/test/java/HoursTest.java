@@ -42,6 +42,9 @@ final class HoursTest {
         DUE.noSuch("person -1", () -> x.named(-1, 0));
         DUE.noSuch("what 2", () -> x.named(0, 2));
         DUE.noSuch("what -1", () -> x.named(0, -1));
+        SaucerFair ever = Due.of(LINE + "says 0 1 1;");
+        DUE.is("hours 0 to 99", ever.named(1, 0), 100);
+        DUE.is("verdicts of hours 0 to 99", ever.named(1, 1), 100);
         SaucerFair ruled = Due.of("one 1 1 1;one 2 2 2;court (hour<7)*skill;");
         DUE.is("verdicts by a rule", ruled.named(1, 1), 7);
     }
@@ -86,7 +89,8 @@ final class HoursTest {
         DUE.noSuch("hour 100", () -> x.pardon(0, 100));
         DUE.noSuch("hour -1", () -> x.pardon(0, -1));
         DUE.is("none", Due.of(LINE + "court skill;").pardon(2, 0), -1);
-        SaucerFair rival = Due.of("one 0 10 0;one 20 10 0;needle 10 10 40 0;needle 19 0 19 0;needle 10 12 15 0;says 5 0 1;says 6 1 1;turns (hour=5)*(reach=40)+(hour=6)*(reach=19)+(hour=5)*(reach=15);");
+        SaucerFair rival = Due.of("one 0 10 0;one 20 10 0;needle 10 10 40 0;needle 19 0 19 0;needle 10 12 15 0;"
+            + "says 5 0 1;says 6 1 1;turns (hour=5)*(reach=40)+(hour=6)*(reach=19)+(hour=5)*(reach=15);");
         // the first and the third point at 0, the second at 1: taking one away leaves a tie, which 0 still has
         DUE.is("two of them", rival.pardon(0, 6), 5);
         SaucerFair flat = Due.of(LINE + "needle 3 3 9 9;court flat;says 1 0 1;");

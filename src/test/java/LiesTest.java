@@ -27,7 +27,8 @@ final class LiesTest {
         x.tell(0, 0, 9);
         x.tell(0, 0, 9);
         DUE.is("both at one", x.clash(), -1);
-        SaucerFair y = Due.of("one 0 5 0;one 20 5 0;needle 10 5 9 0;needle 10 6 40 0;turns far<11 and reach=9*degree or degree=5;says 0 0 1;");
+        SaucerFair y = Due.of("one 0 5 0;one 20 5 0;needle 10 5 9 0;needle 10 6 40 0;"
+            + "turns far<11 and reach=9*degree or degree=5;says 0 0 1;");
         DUE.is("one that shows nothing", y.clash(), -1);
         y.tell(0, 1, 5);
         DUE.is("one spins", y.shows(0, 0), 9);
@@ -65,7 +66,8 @@ final class LiesTest {
         x.rust(0, 9);
         DUE.is("the second alone", x.apart(9, 0), 2);
         DUE.is("none, for it hears nothing", x.apart(4, 0), -1);
-        SaucerFair two = Due.of("one 0 10 0;one 0 11 0;one 20 10 0;one 20 30 0;needle 10 10 40 0;needle 0 0 40 0;needle 1 11 40 0;needle 1 10 40 0;");
+        SaucerFair two = Due.of("one 0 10 0;one 0 11 0;one 20 10 0;one 20 30 0;"
+            + "needle 10 10 40 0;needle 0 0 40 0;needle 1 11 40 0;needle 1 10 40 0;");
         // the third shows 7, 6, 2, 3, the fourth 6, 5, 2, 3; the others show 0 and 1 alike
         DUE.is("one of two, the least as bits", two.apart(9, 0), 4);
         SaucerFair one = Due.of("one 0 0 0;");
@@ -89,6 +91,8 @@ final class LiesTest {
         DUE.is("for the two behind him", x.alibi(0, 1, 0), 10);
         DUE.is("for nobody", x.alibi(1, 1, 0), 0);
         DUE.is("not for himself", x.alibi(2, 1, 0), 0);
+        SaucerFair last = Due.of("one 1 1 1;one 2 2 2;one 3 3 9;court skill;");
+        DUE.is("for all others", last.alibi(2, 1, 0), 3);
         SaucerFair hour = Due.of("one 1 1 1;one 2 2 0;court skill*(hour=5);");
         DUE.is("in hour 5", hour.alibi(0, 9, 5), 2);
         DUE.is("in hour 6", hour.alibi(0, 9, 6), 0);
@@ -121,6 +125,10 @@ final class LiesTest {
         DUE.is("up left", four.plan(1, 0, 7), 1);
         SaucerFair three = Due.of("one 9 9 0;one 11 9 0;one 10 12 0;one 20 20 0;needle 10 10 40 0;");
         DUE.is("three of them let it spin", three.plan(1, 0, 9), 7);
+        SaucerFair fourth = Due.of("one 9 9 0;one 11 9 0;one 10 11 0;one 10 12 0;needle 10 10 40 0;needle 11 10 40 0;");
+        DUE.is("not even three", fourth.plan(3, 0, 9), -1);
+        SaucerFair onlyFour = Due.of("one 11 10 0;one 12 10 0;one 13 10 0;one 4 10 0;needle 10 10 40 0;");
+        DUE.is("four would, but that are too many", onlyFour.plan(1, 0, 9), -1);
         SaucerFair more = Due.of("one 9 10 0;one 10 9 0;one 12 10 0;one 8 10 0;one 11 10 0;one 30 10 0;needle 10 10 40 0;");
         DUE.is("two, of which the least as bits", more.plan(1, 0, 9), 12);
         SaucerFair sixteen = Due.of(FAIR);

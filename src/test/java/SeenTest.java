@@ -84,9 +84,20 @@ final class SeenTest {
         x.forget();
         x.see(0, 8, 8);
         DUE.is("flat: who is there", x.suspects(8), 4);
+        x.rust(0, 8);
+        DUE.is("by a lie of 9 alone", x.suspects(8), 4);
+        DUE.is("by a lie of 1 alone", seenOnce("turns degree=1;").suspects(8), 4);
+        DUE.is("by a lie of 5 alone", seenOnce("turns degree=5;").suspects(8), 4);
+        DUE.is("by no lie", seenOnce("turns 9<degree;").suspects(8), 0);
         DUE.noSuch("hour 100", () -> x.suspects(100));
         DUE.noSuch("hour -1", () -> x.suspects(-1));
         DUE.is("nobody", new SaucerFair().suspects(0), 0);
+    }
+
+    private static SaucerFair seenOnce(String turns) {
+        SaucerFair x = Due.of(FAIR + turns);
+        x.see(0, 8, 8);
+        return x;
     }
 
     private static void spotting() {
@@ -148,6 +159,12 @@ final class SeenTest {
         SaucerFair z = Due.of("one 5 0 1;one 6 0 0;turns reach=60 and rust=0 and degree=9 and skill=1 and hour=7;");
         DUE.is("by its rule", z.saucer(3, 7, 0), 2);
         DUE.is("in another hour nothing", z.saucer(3, 6, 0), 1);
+        SaucerFair up = Due.of("one 5 5 0;one 0 10 1;one 0 14 2;turns skill=1 and far=1 or skill=2 and far=3;");
+        DUE.is("nothing, up and down", up.saucer(7, 0, 0), 3);
+        DUE.is("where: up is not nothing", up.saucer(7, 0, 1), 1100);
+        SaucerFair edge = Due.of("one 40 40 0;one 40 38 1;turns far<1 or skill=1 and far=3;");
+        DUE.is("nothing, and one", edge.saucer(3, 0, 0), 2);
+        DUE.is("the first of it", edge.saucer(3, 0, 1), 3537);
         SaucerFair row = Due.of("one 0 0 0;one 1 0 0;one 2 0 0;one 3 0 0;");
         // at 0, 0: 8, 2, 2, 2; at 1, 0: 6, 8, 2, 2; at 1, 1 but three, too: 7, 0, 1, 1
         DUE.is("four in a row", row.saucer(15, 0, 0), 3);

@@ -80,6 +80,8 @@ final class TextTest {
         fault("One 1 1 1;", 1, 0);
         fault("ones 1 1 1;", 1, 0);
         fault("on e 1 1 1;", 1, 0);
+        fault("xne 1 1 1;", 1, 0);
+        fault("onx 1 1 1;", 1, 0);
         fault("5;", 1, 0);
         fault(";", 1, 0);
         fault("#", 1, 0);
@@ -131,6 +133,7 @@ final class TextTest {
         fine("one 1 1 0;one 1 2 0;one 2 1 0;");
         fine("one 1 1 0;needle 1 1 5 5;");
         fine("needle 1 1 5 5;one 1 1 0;");
+        fine("needle 1 2 5 5;needle 2 1 5 5;needle 2 2 5 5;");
         fault("needle 1 1 5 5;needle 1 1 61 5;", 4, 24);
         fault("says 0 0 1;", 3, 7);
         fault("says 100 0 1;", 2, 5);
@@ -184,6 +187,8 @@ final class TextTest {
         fault("turns not or 1;", 3, 10);
         fault("turns one;", 3, 6);
         fault("turns xyz;", 3, 6);
+        fault("turns z;", 3, 6);
+        fault("turns a;", 3, 6);
         fault("turns ();", 1, 7);
         fault("turns (1;", 1, 8);
         fault("turns 1);", 1, 7);
