@@ -243,7 +243,7 @@ public final class SaucerFair {
         Needles needles = watch.fair.needles;
         int before = needles.rust[needle];
         acts.keep(Acts.RUSTED, needle, before, 0);
-        needles.rust[needle] = rust;
+        needles.setRust(needle, rust);
         watch.refresh();
         return before;
     }
@@ -258,8 +258,7 @@ public final class SaucerFair {
         int oldX = needles.x[needle];
         int oldY = needles.y[needle];
         acts.keep(Acts.CARRIED, needle, oldX, oldY);
-        needles.x[needle] = x;
-        needles.y[needle] = y;
+        needles.setPlace(needle, x, y);
         watch.refresh();
         return placeNumber(oldX, oldY);
     }
@@ -865,6 +864,19 @@ public final class SaucerFair {
                 reach[count] = far;
                 rust[count] = rusty;
                 count++;
+            }
+        }
+
+        void setRust(int needle, int rusty) {
+            if (needle >= 0 && needle < count) {
+                rust[needle] = rusty;
+            }
+        }
+
+        void setPlace(int needle, int a, int b) {
+            if (needle >= 0 && needle < count) {
+                x[needle] = a;
+                y[needle] = b;
             }
         }
 
@@ -1867,20 +1879,21 @@ public final class SaucerFair {
                 return;
             }
             count--;
-            int needle = a[count];
+            int first = a[count];
+            int second = b[count];
+            int third = c[count];
             switch (kind[count]) {
                 case TOLD:
                     fair.sayings.dropLast();
                     break;
                 case BACK:
-                    fair.sayings.add(a[count], b[count], c[count]);
+                    fair.sayings.add(first, second, third);
                     break;
                 case RUSTED:
-                    fair.needles.rust[needle] = b[count];
+                    fair.needles.setRust(first, second);
                     break;
                 default:
-                    fair.needles.x[needle] = b[count];
-                    fair.needles.y[needle] = c[count];
+                    fair.needles.setPlace(first, second, third);
                     break;
             }
         }
