@@ -9,6 +9,7 @@ final class ActEdgesTest {
         tellBounds();
         tellAnswersTheNextNumber();
         backDownToNone();
+        backUndone();
         rustBounds();
         carryBounds();
         carryToWhereAnotherIs();
@@ -124,6 +125,24 @@ final class ActEdgesTest {
         DUE.is("acts", x.count(4), 16);
         DUE.is("tell again", x.tell(0, 0, 0), 0);
         DUE.is("back again", x.back(), 0);
+    }
+
+    /** What is taken BACK and UNDONE comes back whole, and touches nothing else. */
+    private static void backUndone() {
+        for (int hour : new int[] {0, 1, 99}) {
+            for (int who = 0; who < 3; who++) {
+                SaucerFair x = Due.of(FAIR + "says 50 0 3;says " + hour + " " + who + " 7;");
+                x.back();
+                DUE.is("undo", x.undo(), 0);
+                DUE.is("hour", x.saying(1, 0), hour);
+                DUE.is("who", x.saying(1, 1), who);
+                DUE.is("degree", x.saying(1, 2), 7);
+                DUE.is("the other one", x.saying(0, 0) * 100 + x.saying(0, 1) * 10 + x.saying(0, 2), 5003);
+                DUE.is("RUST", x.needle(0, 3) * 10 + x.needle(1, 3), 0);
+                DUE.is("place", x.needle(0, 0) * 100 + x.needle(0, 1), 1010);
+                DUE.is("place of the second", x.needle(1, 0) * 100 + x.needle(1, 1), 1020);
+            }
+        }
     }
 
     // ---- RUST, CARRIED
@@ -548,10 +567,12 @@ final class ActEdgesTest {
         for (int i = 0; i < 16; i++) {
             x.tell(i * 6, i % 2, i % 10);
         }
-        for (int i = 0; i < 8; i++) {
-            x.see(5 - i % 6, i, i);
+        // none of these is so but the eighth, of a needle that has no other: in hour 95 it still shows what it does
+        for (int i = 0; i < 7; i++) {
+            x.see(i % 5, 0, 9);
         }
-        int planted = x.planted();
+        x.see(5, 95, x.shows(5, 95));
+        DUE.is("planted", x.planted(), 31);
         x.image();
         for (int i = 0; i < 16; i++) {
             x.back();
@@ -564,7 +585,9 @@ final class ActEdgesTest {
             x.carry(n, 40, 40 - n);
         }
         x.forget();
-        x.see(0, 0, 9);
+        for (int i = 0; i < 8; i++) {
+            x.see(0, 3, 9);
+        }
         DUE.isTrue("restore", x.restore());
         for (int i = 0; i < 16; i++) {
             DUE.is("hour", x.saying(i, 0), i * 6);
@@ -576,7 +599,10 @@ final class ActEdgesTest {
             DUE.is("reach, rust", x.needle(n, 2) * 10 + x.needle(n, 3), 90 + n);
         }
         DUE.is("seen", x.count(5), 8);
-        DUE.is("planted", x.planted(), planted);
+        DUE.is("planted", x.planted(), 31);
+        x.rust(5, 9);
+        DUE.is("the eighth is not so any more", x.planted(), 63);
+        x.undo();
         DUE.is("a ninth", x.see(0, 0, 0), -1);
         DUE.is("a 17th", x.tell(0, 0, 0), -1);
         for (int i = 15; i >= 0; i--) {
@@ -620,11 +646,18 @@ final class ActEdgesTest {
         DUE.is("acts still", x.count(4), 40);
         DUE.is("undo it", x.undo(), 39);
         for (int i = 38; i >= 0; i--) {
+            DUE.is("where it is", x.needle(0, 0) * 100 + x.needle(0, 1), (i + 4) % 41 * 100 + 5);
             DUE.is("undo", x.undo(), i);
         }
         // 43 and one more: the first four are forgotten, the fourth of them having carried it to 3, 5
         DUE.is("where it was", x.needle(0, 0) * 100 + x.needle(0, 1), 305);
         DUE.is("none is left", x.undo(), -1);
+        DUE.is("the other one's RUST stays", x.needle(1, 3), 0);
+        DUE.isTrue("restore", x.restore());
+        for (int i = 39; i >= 0; i--) {
+            DUE.is("where it is again", x.needle(0, 0) * 100 + x.needle(0, 1), (i + 3) % 41 * 100 + 5);
+            DUE.is("undo again", x.undo(), i);
+        }
     }
 
     /** "An object is used for at most 512 calls": the last of them answer as the first. */

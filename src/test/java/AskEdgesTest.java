@@ -27,6 +27,7 @@ final class AskEdgesTest {
         spotsAtTheCorners();
         spotsByHour();
         saucerAtTheCorners();
+        saucerNotBeyondForty();
         saucerShowsUpToTen();
         saucerOfReachAndRust();
         gamesAtTheGain();
@@ -44,6 +45,7 @@ final class AskEdgesTest {
         truestOfLikeOnes();
         firstHours();
         busiestHours();
+        besidesSixteenSayings();
         DUE.end();
     }
 
@@ -303,6 +305,13 @@ final class AskEdgesTest {
             x.see(0, 5, 2);
             DUE.is("RUST " + rust, x.suspects(5), rust < 9 ? 2 : 0);
         }
+        // what is SEEN is so already, but by no lie that is HEARD: a true word more is no lie
+        SaucerFair silent = Due.of(ROUND);
+        silent.see(0, 5, -1);
+        DUE.is("any lie would be HEARD", silent.suspects(5), 0);
+        DUE.is("any lie behind it", silent.suspects(6), 31);
+        silent.rust(0, 1);
+        DUE.is("but a lie of 1", silent.suspects(5), 31);
         StringBuilder ten = new StringBuilder("needle 20 20 40 0;");
         for (int i = 0; i < 10; i++) {
             ten.append("one ").append(i).append(" 20 0;");
@@ -386,6 +395,19 @@ final class AskEdgesTest {
         DUE.is("the other one", pair.saucer(2, 0, 0), 1);
         DUE.illegal("a third", () -> pair.saucer(4, 0, 0));
         DUE.illegal("with a third", () -> pair.saucer(7, 0, 0));
+    }
+
+    /** He is 40 far from places of X 41, Y 41, X -1 or Y -1 alone, where there is none: nothing is ever HEARD. */
+    private static void saucerNotBeyondForty() {
+        for (String place : new String[] {"1 39", "39 1", "39 39", "1 1"}) {
+            SaucerFair x = Due.of("one " + place + " 1;one 5 5 2;turns skill=1 and far=40;");
+            DUE.is("nothing, by " + place, x.saucer(3, 0, 0), 1);
+            DUE.is("the first place, by " + place, x.saucer(3, 0, 1), 0);
+        }
+        for (String place : new String[] {"0 39", "39 0", "40 39", "39 40", "0 0", "40 40"}) {
+            SaucerFair x = Due.of("one " + place + " 1;one 5 5 2;turns skill=1 and far=40;");
+            DUE.is("a side and nothing, by " + place, x.saucer(3, 0, 0), 2);
+        }
     }
 
     /** "how many (nothing counts as one)": from eight sides, FLAT and nothing. */
@@ -695,6 +717,10 @@ final class AskEdgesTest {
             other.rust(0, 1);
             DUE.is("of the other one in " + told, other.falsely(0), told);
         }
+        // the same with the one above being the first of PEOPLE
+        String least = "one 10 0 0;one 0 0 0;one 20 0 0;needle 10 10 40 1;says 0 1 2;says 0 2 2;";
+        DUE.is("at the first of PEOPLE", Due.of(least).falsely(0), 100);
+        DUE.is("at the first of PEOPLE, until he lies", Due.of(least + "says 50 0 1;").falsely(0), 50);
         DUE.is("at nobody", Due.of("one 0 0 0;one 20 0 0;needle 10 10 40 0;says 0 0 2;says 0 1 2;").falsely(0), 0);
         DUE.is("nothing", Due.of(ROUND).falsely(0), 0);
         DUE.is("FLAT", Due.of(ROUND + "says 0 2 1;").falsely(0), 0);
@@ -751,5 +777,23 @@ final class AskEdgesTest {
         SaucerFair six = Due.of(SIX + BELOW + "turns 1;says 50 0 9;");
         DUE.is("six", six.busiest(1), 6);
         DUE.is("no NEEDLES", Due.of("one 1 1 1;says 50 0 9;").busiest(0), -1);
+    }
+
+    /** Lies more, "besides all SAYINGS", are no ACTS: there may be sixteen already. */
+    private static void besidesSixteenSayings() {
+        SaucerFair x = Due.of(ROUND + "says 5 0 1;" + "says 9 2 0;".repeat(15));
+        DUE.is("no more can be TOLD", x.tell(5, 1, 9), -1);
+        DUE.is("a PLAN", x.plan(1, 5, 9), 2);
+        DUE.is("a GAME", x.game(0, 1, 5, 9, 1), 1);
+        x.see(0, 5, 9);
+        DUE.is("SUSPECTS", x.suspects(5), 2);
+        DUE.is("SPOTS", x.spots(5, 0), 1);
+        DUE.is("the first", x.spots(5, 1), 1020);
+        DUE.is("as they were", x.count(2), 16);
+        DUE.is("no ACTS", x.count(4), 0);
+        SaucerFair said = Due.of("one 1 1 1;one 2 2 2;court said=17;" + "says 9 0 0;".repeat(16));
+        DUE.is("a 17th, by a lie", said.game(0, 1, 9, 9, 1), 1);
+        DUE.is("that alone", said.game(0, 1, 9, 9, 0), 1);
+        DUE.is("not an hour ahead", said.game(0, 1, 8, 9, 1), 11);
     }
 }

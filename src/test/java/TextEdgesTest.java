@@ -31,6 +31,7 @@ final class TextEdgesTest {
         secondRules();
         firstAlongTheText();
         leastOfOneToken();
+        eachTextAnew();
         DUE.end();
     }
 
@@ -649,5 +650,37 @@ final class TextEdgesTest {
         fault(people(10) + "turns one 1 1 1;", 3, 106);
         fault("turns 1 turns 1;", 1, 8);
         fault("one turns 1;", 1, 4);
+    }
+
+    /** "all anew": nothing of the texts ahead is left, be it the one ahead, one with a FAULT, or the one ahead of that. */
+    private static void eachTextAnew() {
+        String full = people(10) + needles(6) + "says 9 9 9;".repeat(16) + "turns 1;court 1;";
+        SaucerFair x = new SaucerFair();
+        for (int i = 0; i < 4; i++) {
+            DUE.is("a full text", Due.read(x, full), 0);
+            if (i % 2 == 1) {
+                DUE.is("a full text with a FAULT", Due.read(x, full + "court"), 5);
+            }
+            DUE.is("it is full", x.count(0) * 10000 + x.count(1) * 100 + x.count(2), 100616);
+            DUE.is("a small text", Due.read(x, "one 0 0 1;needle 40 40 1 9;says 5 0 1;"), 0);
+            DUE.is("it is small", x.count(0) * 10000 + x.count(1) * 100 + x.count(2), 10101);
+            DUE.is("TURNS is gone", x.needle(0, 4), 0);
+            DUE.is("COURT is gone", x.accused(99), -1);
+            DUE.is("an empty text", x.fair(0), 0);
+            DUE.is("it is empty", x.count(0) * 10000 + x.count(1) * 100 + x.count(2), 0);
+        }
+        // a longer rule of a text ahead leaves nothing behind a shorter one's end
+        String[] longer = {"not 1", "not not 1", "1 and 0", "1-1", "1*0", "1<0"};
+        for (String rule : longer) {
+            for (int between = 0; between < 3; between++) {
+                SaucerFair y = Due.of("one 0 0 1;needle 1 1 9 0;says 0 0 1;turns " + rule + ";court " + rule + ";");
+                for (int i = 0; i < between; i++) {
+                    Due.read(y, i % 2 == 0 ? "one 0 0 1;" : "turns " + rule + ";court " + rule + ";#");
+                }
+                DUE.is("a shorter rule", Due.read(y, "one 0 0 1;needle 1 1 9 0;says 0 0 1;turns 1;court 1;"), 0);
+                DUE.is("TURNS of it behind " + rule, y.needle(0, 4), 1);
+                DUE.is("COURT of it behind " + rule, y.accused(0), 0);
+            }
+        }
     }
 }
