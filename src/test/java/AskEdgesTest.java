@@ -46,6 +46,9 @@ final class AskEdgesTest {
         firstHours();
         busiestHours();
         besidesSixteenSayings();
+        turnsOfALieMore();
+        turnsInYears();
+        courtInEachHour();
         DUE.end();
     }
 
@@ -795,5 +798,81 @@ final class AskEdgesTest {
         DUE.is("a 17th, by a lie", said.game(0, 1, 9, 9, 1), 1);
         DUE.is("that alone", said.game(0, 1, 9, 9, 0), 1);
         DUE.is("not an hour ahead", said.game(0, 1, 8, 9, 1), 11);
+    }
+
+    /** The VALUES of TURNS for a lie that might be told: its HOUR, DEGREE, his SKILL, and those of the NEEDLE. */
+    private static void turnsOfALieMore() {
+        String fair = "one 0 10 7;one 20 10 7;needle 10 10 40 3;turns ";
+        String[] so = {"hour=50", "degree=9", "skill=7", "far=10", "reach=40", "rust=3"};
+        for (String turns : so) {
+            SaucerFair x = Due.of(fair + turns + ";");
+            x.see(0, 60, 6);
+            isHeard(x, turns, 50, true);
+            SaucerFair y = Due.of(fair + "not " + turns + ";");
+            y.see(0, 60, 6);
+            isHeard(y, "not " + turns, 50, false);
+        }
+        for (int told : new int[] {0, 1, 49, 50, 51}) {
+            SaucerFair x = Due.of(fair + "hour=" + told + ";");
+            x.see(0, 60, 6);
+            for (int hour = 0; hour <= 60; hour++) {
+                isHeard(x, "hour=" + told, hour, hour == told);
+            }
+        }
+    }
+
+    private static void isHeard(SaucerFair x, String turns, int hour, boolean heard) {
+        String what = " by " + turns + " in " + hour;
+        DUE.is("JUST" + what, x.just(9, hour, heard ? 0 : 2), 2);
+        DUE.is("ALIBI" + what, x.alibi(0, 9, hour), 0);
+        DUE.is("TELL APART" + what, x.apart(9, hour), heard ? 1 : -1);
+        DUE.is("EARS" + what, x.ears(9, hour), heard ? 1 : -1);
+        DUE.is("a PLAN" + what, x.plan(1, hour, 6), heard ? 1 : -1);
+        DUE.is("a GAME" + what, x.game(0, 1, hour, 9, 1), heard ? 0 : 11);
+        // he might have told a lie of another DEGREE
+        DUE.is("SUSPECTS" + what, x.suspects(hour), heard || turns.endsWith("degree=9") ? 1 : 0);
+        if (turns.indexOf("far") < 0) {
+            DUE.is("HIDEOUTS" + what, x.hideouts(0, 9, hour, 0), heard ? 0 : 1681);
+            // a stranger's SKILL is another one
+            DUE.is("SPOTS" + what, x.spots(hour, 1) >= 0 ? 1 : 0, heard != turns.endsWith("skill=7") ? 1 : 0);
+        }
+    }
+
+    /** In YEARS a SAYING's HOUR is that in which it is said: what the needle shows goes by the HOUR of the rule alone. */
+    private static void turnsInYears() {
+        int seen = 0;
+        for (int told : new int[] {0, 1, 5, 6, 7, 50, 97, 98}) {
+            SaucerFair x = Due.of("one 0 0 0;needle 1 1 9 0;turns hour=" + told + ";");
+            for (int seed = 0; seed < 5; seed++) {
+                int[] before = drawn(seed, told, 1);
+                int[] with = drawn(seed, told + 1, 1);
+                int[] all = drawn(seed, 99, 1);
+                boolean lie = with[1] > before[1];
+                seen += lie ? 1 : 0;
+                DUE.is("rightly from " + told + " on", x.years(seed, 99, 0), lie ? all[1] - before[1] : 0);
+                DUE.is("wrongly from " + told + " on", x.years(seed, 99, 2), lie ? all[2] - before[2] : 0);
+                DUE.is("not ahead of it", x.years(seed, told, 0) + x.years(seed, told, 2), 0);
+            }
+        }
+        DUE.isTrue("there were lies", seen > 20);
+        SaucerFair skill = Due.of("one 0 0 4;needle 1 1 9 2;turns skill=4 and rust=2 and reach=9 and far=1 and 0<degree;");
+        DUE.is("his SKILL, its RUST, REACH, FAR", skill.years(3, 99, 0), skill.years(3, 99, 1));
+        SaucerFair nine = Due.of("one 0 0 4;needle 1 1 9 2;turns degree<0;");
+        DUE.is("never", nine.years(3, 99, 0), 0);
+    }
+
+    /** 'hour' of COURT is the HOUR that is asked for. */
+    private static void courtInEachHour() {
+        SaucerFair x = Due.of("one 0 10 7;one 20 10 3;court (hour=50)*skill;");
+        for (int hour = 0; hour <= 99; hour++) {
+            boolean so = hour == 50;
+            DUE.is("accused in " + hour, x.accused(hour), so ? 0 : -1);
+            DUE.is("JUST in " + hour, x.just(1, hour, so ? 1 : 2), so ? 1 : 2);
+            DUE.is("ALIBI in " + hour, x.alibi(0, 1, hour), so ? 2 : 0);
+            DUE.is("a PARDON in " + hour, x.pardon(0, hour), so ? -1 : 0);
+            DUE.is("a GAME in " + hour, x.game(0, 1, hour, 99, 1), 11);
+        }
+        DUE.is("VERDICTS", x.named(0, 1), 1);
+        DUE.is("THE FIRST HOUR", x.first(0), 50);
     }
 }
