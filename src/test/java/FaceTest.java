@@ -1,11 +1,16 @@
+import java.io.IOException;
 import java.lang.reflect.Constructor;
 import java.lang.reflect.Field;
 import java.lang.reflect.Method;
 import java.lang.reflect.Modifier;
+import java.nio.file.Files;
+import java.nio.file.Path;
 import java.util.ArrayList;
 import java.util.List;
 import java.util.Set;
 import java.util.TreeSet;
+import java.util.regex.Matcher;
+import java.util.regex.Pattern;
 
 /** The public face: just what the document names, and what LANGUAGE.md's rules 1, 5 and 11 say of the class itself. */
 final class FaceTest {
@@ -15,7 +20,7 @@ final class FaceTest {
         "game 5", "years 3", "shown 2", "named 2", "butFor 1", "rusted 1", "ears 2", "hideouts 4", "pardon 2", "falsely 1",
         "truest 0", "first 1", "busiest 1", "image 0", "restore 0"};
 
-    public static void main(String[] args) {
+    public static void main(String[] args) throws IOException {
         Due due = new Due("FaceTest");
         due.isTrue("the class is public and final", SaucerFair.class.getModifiers() == (Modifier.PUBLIC | Modifier.FINAL));
         due.is("NONE", SaucerFair.NONE, -1);
@@ -23,6 +28,7 @@ final class FaceTest {
         constructors(due);
         fields(due);
         classesInside(due);
+        asTheDocument(due);
         due.end();
     }
 
@@ -93,5 +99,28 @@ final class FaceTest {
                 due.isFalse(method + " bears a public name", isPublicName(method.getName()));
             }
         }
+    }
+
+    /** The heads of the face, their parameters' names and what they throw too, in the document's words and order. */
+    private static void asTheDocument(Due due) throws IOException {
+        String document = Files.readString(Path.of("../shared/DOC.md"));
+        int begin = document.indexOf("```java");
+        List<String> want = heads(document.substring(begin, document.indexOf("```", begin + 7)), ';');
+        List<String> got = heads(Files.readString(Path.of("src/main/java/SaucerFair.java")), '{');
+        due.is("heads in the document", want.size(), METHODS.length + 1);
+        due.is("heads in the class", got.size(), want.size());
+        for (int i = 0; i < Math.min(got.size(), want.size()); i++) {
+            due.isTrue("head " + got.get(i) + ", due is " + want.get(i), got.get(i).equals(want.get(i)));
+        }
+    }
+
+    private static List<String> heads(String text, char end) {
+        List<String> found = new ArrayList<>();
+        Matcher heads = Pattern.compile("(?m)^    public [^={;]*\\([^{;]*\\" + end).matcher(text);
+        while (heads.find()) {
+            String head = heads.group();
+            found.add(head.substring(0, head.length() - 1).strip().replaceAll("\\s+", " "));
+        }
+        return found;
     }
 }
